@@ -609,7 +609,7 @@ public final class MixRounds {
 
         private int ownWaiting() {
             int own = 0;
-            for (int w = 0; w < waiting; w++) {
+            for (int w = 0; w < waiting && w < MOST_INSIDE; w++) {
                 int i = waiters[w];
                 if (hasLetter(i) && senders[i] == OWN) {
                     own++;

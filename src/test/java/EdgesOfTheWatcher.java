@@ -55,6 +55,67 @@ public final class EdgesOfTheWatcher extends EdgeTest {
         due(1, x.round(1, 4));
     }
 
+    private static void nothingOfReceivers() {
+        says("makes nothing of RECEIVERS");
+        // The same senders and draws, all to one RECEIVER or each to another: a like CHANCE for each.
+        MixRounds one = pool(0);
+        MixRounds many = pool(1);
+        due(3, one.count(ROUNDS));
+        for (int r = 0; r < 3; r++) {
+            for (int i = 0; i < one.count(LETTERS); i++) {
+                chance(one.chance(r, 0, i, 0), one.chance(r, 0, i, 1), many, r, 0, i);
+            }
+            due(one.out(r, 1, 2), many.out(r, 1, 2));
+            due(one.out(r, 1, 3), many.out(r, 1, 3));
+        }
+        // A letter that alone goes to its RECEIVER is not known by that: 1 by 3 for each of three.
+        MixRounds x = comes(mix(BATCH, 3, 0, 0), 3);
+        for (int k = 0; k < 3; k++) {
+            for (int i = 0; i < 3; i++) {
+                chance(1, 3, x, 0, k, i);
+            }
+        }
+    }
+
+    /** POOL with a DUMMY in each of three rounds; receivers that step so far from letter to letter. */
+    private static MixRounds pool(int step) {
+        MixRounds x = mix(POOL, 2, 2, 1);
+        for (int k = 0; k < 8; k++) {
+            x.come(k % 3, k * step % 8);
+        }
+        return x;
+    }
+
+    private static void whereDummiesGo() {
+        says("DUMMIES, too, but not where DUMMIES go");
+        // A letter to 3 and a DUMMY to 6, which is known as one that came: each OUT is each of them by 1 by 2.
+        MixRounds x = mix(BATCH, 1, 0, 1);
+        x.seed(seedOf(6));
+        due(2, x.come(0, 3));
+        due(6, x.letter(1, 1));
+        for (int k = 0; k < 2; k++) {
+            sender(1, 2, x, 0, k, 0);
+            sender(1, 2, x, 0, k, DUMMY);
+            due(2, x.out(0, k, 2));
+        }
+        expected(1, 2, x, 0, 3);
+        expected(1, 2, x, 0, 6);
+        expected(1, 2, x, DUMMY, 3);
+        expected(1, 2, x, DUMMY, 6);
+        expected(0, 1, x, DUMMY, 5);
+    }
+
+    private static void leftOfARound() {
+        says("LEFT of q: M less J by M");
+        // None of M went, all of M went, two of three, five of six with their DUMMIES.
+        stays(1, 1, oneOfTwo(true), 0);
+        stays(0, 1, oneOfTwo(false), 0);
+        stays(1, 3, comes(mix(POOL, 2, 1, 0), 3), 0);
+        MixRounds x = comes(mix(POOL, 2, 1, 3), 3);
+        stays(1, 6, x, 0);
+        stays(1, 6, x, 5);
+    }
+
     private static void ownOut() {
         says("if that OUT is OWN: 1, if i is it, else 0");
         MixRounds x = alone(OWN, OWN, 4);
@@ -351,7 +412,10 @@ public final class EdgesOfTheWatcher extends EdgeTest {
     }
 
     public static void main(String[] args) {
+        nothingOfReceivers();
+        whereDummiesGo();
         lettersOfARound();
+        leftOfARound();
         ownOut();
         zeroForOwnOnes();
         cameBehind();

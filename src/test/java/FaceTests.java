@@ -3,14 +3,12 @@ import java.lang.reflect.Constructor;
 import java.lang.reflect.Field;
 import java.lang.reflect.Method;
 import java.lang.reflect.Modifier;
-import java.nio.file.Files;
-import java.nio.file.Path;
 import java.util.ArrayList;
 import java.util.List;
 import java.util.TreeSet;
 
-/** The face of the class, the rules of LANGUAGE.md that can be seen from outside, and what calls make. */
-public final class FaceTests {
+/** The face of the class, the rule of LANGUAGE.md about it, and what calls make. */
+public final class FaceTests extends Faults {
     private static final String[] CALLS = {
         "int come(int,int)", "int tick()", "int tell(int,int)", "int begin()", "int letter(int,int)", "int inside(int)",
         "int round(int,int)", "int out(int,int,int)", "int count(int)", "long chance(int,int,int,int)",
@@ -20,15 +18,6 @@ public final class FaceTests {
         "int item(int,int,int,long)", "int copy(int,int,int,int,int)"};
     private static final String[] CONSTANTS = {"BAD", "NOT", "FULL", "NONE", "NULL", "CAST", "INDEX", "SIZE"};
     private static final int[] VALUES = {-1, -2, -3, -4, -11, -12, -13, -14};
-    private static final String SOURCE = "src/main/java/MixRounds.java";
-    private static int wrong = 0;
-
-    private static void hold(boolean good, String what) {
-        if (!good) {
-            wrong++;
-            System.out.println(what);
-        }
-    }
 
     private static String told(Method m) {
         StringBuilder text = new StringBuilder(m.getReturnType().getName()).append(' ').append(m.getName()).append('(');
@@ -81,33 +70,6 @@ public final class FaceTests {
         }
     }
 
-    private static void source() throws Exception {
-        String text = Files.readString(Path.of(SOURCE)).replaceAll("(?s)/\\*.*?\\*/", "").replaceAll("//[^\n]*", "");
-        for (String word : new String[] {"throw", "throws", "try", "catch", "synchronized", "assert", "package", "double", "float"}) {
-            hold(!text.matches("(?s).*\\b" + word + "\\b.*"), "the source says " + word);
-        }
-        for (String sign : new String[] {"->", "::", "Exact(", "System.out", "System.nano", "System.current", "Random"}) {
-            hold(!text.contains(sign), "the source says " + sign);
-        }
-        for (String line : text.split("\n")) {
-            hold(!line.startsWith("import ") || line.equals("import java.util.Arrays;"), line);
-        }
-        int open = 0;
-        int since = 0;
-        String[] lines = text.split("\n");
-        for (int n = 0; n < lines.length; n++) {
-            if (lines[n].matches("    (    )?(public|private|static|void|int|long|boolean)[^=;]*\\{\\s*") && !lines[n].contains(" class ")) {
-                open = n;
-                since++;
-            }
-            if (lines[n].matches("    (    )?\\}")) {
-                hold(open == 0 || n - open < 60, "a method of more than sixty lines at line " + open);
-                open = 0;
-            }
-        }
-        hold(since > 50, "methods were not found: " + since);
-    }
-
     private static long made() {
         return ((com.sun.management.ThreadMXBean) ManagementFactory.getThreadMXBean()).getCurrentThreadAllocatedBytes();
     }
@@ -139,11 +101,7 @@ public final class FaceTests {
 
     public static void main(String[] args) throws Exception {
         face();
-        source();
         room();
-        System.out.println(wrong == 0 ? "the face is as told" : wrong + " faults of the face");
-        if (wrong != 0) {
-            System.exit(1);
-        }
+        end("the face is as told");
     }
 }
